@@ -495,9 +495,11 @@ public final class SquareSums {
         long atWhole(long[] x, int n) {
             long sum = 0;
             for (int i = 0; i <= n; i++) {
+                long inner = 0;
                 for (int j = i; j <= n; j++) {
-                    sum += number(i, j) * x[i] * x[j];
+                    inner += numbers[i * INDICES + j] * x[j];
                 }
+                sum += inner * x[i];
             }
             return sum;
         }
@@ -524,13 +526,14 @@ public final class SquareSums {
         boolean takeLess(Form goal, Form condition, Fraction multiple, int n) {
             take(goal, n);
             for (int i = 0; i <= n; i++) {
-                for (int j = 0; j <= n; j++) {
+                for (int j = i; j <= n; j++) {
                     boolean fits = other.put(condition.number(i, j), i == j ? 1 : 2)
                             && other.product(multiple, other)
                             && at(i, j).difference(at(i, j), other);
                     if (!fits) {
                         return false;
                     }
+                    at(j, i).copy(at(i, j));
                 }
             }
             return true;
