@@ -293,6 +293,10 @@ public final class PromisesTest {
         make(last, 0, 0, 0);
         due(8, "under at 3, 3", last.under(0, 1, 3), 0);
         duePoint(8, last, 3, 1, 3, 1);
+        SquareSums order = of(2, 1, 2, 1, 0, 0, 8);
+        make(order, 0, 0, 1);
+        due(8, "under, X 1 goes slowest", order.under(0, 1, 2), 0);
+        duePoint(8, order, -3, 1, 3, 1);
         SquareSums far = of(1, 0, 1, -1, 0, 0, 3);
         make(far, 0, 0, 1);
         due(8, "under with a point too far out", far.under(0, 1, 20), 2);
