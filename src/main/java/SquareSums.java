@@ -132,8 +132,9 @@ public final class SquareSums {
         startTelling(form, NONE);
         provedMatrix.take(forms[form], variableCount);
         int answer = proof.run(provedMatrix, variableCount);
-        if (answer == REFUTED && !pointFound(forms[form])) {
-            answer = UNSETTLED;
+        if (answer == REFUTED) {
+            boolean found = proof.findNegative() && place.byWitness(proof.witness, forms[form], variableCount);
+            answer = found ? REFUTED : UNSETTLED;
         }
         return endTelling(answer);
     }
@@ -279,10 +280,6 @@ public final class SquareSums {
         latest[SQUARES] = answer == PROVED ? proof.squareCount : 0;
         place.there = answer == REFUTED;
         return answer;
-    }
-
-    private boolean pointFound(Form form) {
-        return proof.findNegative() && place.byWitness(proof.witness, form, variableCount);
     }
 
     /** Tries the multipliers in their order; the squares are then those of the first one that does. */
